@@ -1255,10 +1255,11 @@ public final class EnvelopeBudget {
                 return 0;
             }
             trial.copyFrom(now);
-            for (int i = 0; i < ahead; i++) {
-                trial.payDueFunds();
+            for (int i = 1; i < ahead; i++) {
                 trial.beginDay();
+                trial.payDueFunds();
             }
+            trial.beginDay();
             Fund one = trial.funds[fund];
             return Math.max(0, one.target - one.balance);
         }

@@ -126,7 +126,8 @@ final class ActionsTest {
         checks.due("the other one", x.account(1), 80);
         checks.due("into the red", x.transfer(1, 0, 1000000), -999920);
         checks.due("the pool stays", x.pool(), 150);
-        checks.due("actions", x.count(6), 2);
+        checks.due("the least", x.transfer(0, 1, 1), 1000069);
+        checks.due("actions", x.count(6), 3);
         checks.dueThrows("from 2", Checks.OUT, () -> x.transfer(2, 2, 1));
         checks.dueThrows("to 2", Checks.OUT, () -> x.transfer(0, 2, 0));
         checks.dueThrows("from -1", Checks.OUT, () -> x.transfer(-1, 0, 1));

@@ -83,6 +83,10 @@ final class DaysTest {
             checks.due("rolled over " + i, x.envelope(i, 0), due[i]);
         }
         checks.due("into the pool", x.pool(), 793);
+        EnvelopeBudget little = Checks.budget("account 1;envelope 0 0 0");
+        little.shift(-1, 0, 1);
+        little.run(30);
+        checks.due("the least is rolled over", little.pool(), 1);
         EnvelopeBudget lacking = Checks.budget("account 0;envelope 5 0 0;envelope 5 2 0");
         lacking.spend(0, 0, 9);
         lacking.spend(1, 0, 8);
@@ -211,7 +215,9 @@ final class DaysTest {
         checks.due("the oldest", x.logPart(39, 1), 39);
         checks.due("none beyond", x.logPart(40, 1), EnvelopeBudget.NO_VALUE);
         x.undo();
-        checks.due("undone entries are back", x.logPart(19, 1), 1);
+        for (int i = 0; i < 20; i++) {
+            checks.due("undone entries are back", x.logPart(i, 1), 20 - i);
+        }
         checks.due("as many", x.count(7), 20);
     }
 }

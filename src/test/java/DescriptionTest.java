@@ -48,6 +48,8 @@ final class DescriptionTest {
         checks.due("append beyond 900", x.append(0x2020202020L), EnvelopeBudget.FULL);
         checks.due("append up to 900", x.append(0x20202020L), 900);
         checks.due("append one more", x.append(0x20), EnvelopeBudget.FULL);
+        checks.due("append a byte 1", x.append(1), EnvelopeBudget.FULL);
+        checks.due("append a first byte", x.append(1L << 63), EnvelopeBudget.FULL);
         checks.due("append nothing to a full buffer", x.append(0), 900);
         checks.due("load 900 spaces", x.load(), -1000);
         checks.due("the buffer is empty then", x.append(0), 0);
@@ -116,6 +118,7 @@ final class DescriptionTest {
         error(" accoun 5", 1, 1, 0);
         error("Account 5", 1, 0, 0);
         error("accounT 5", 1, 0, 0);
+        error("accountz 5", 1, 0, 0);
         error("account, 5", 1, 7, 0);
         error("account -5", 1, 8, 0);
         error("account 5 6", 1, 10, 0);
@@ -234,7 +237,9 @@ final class DescriptionTest {
         checks.due("an empty log", x.count(7), 0);
         checks.due("empty envelopes", x.envelope(0, 0), 0);
         checks.due("nothing spent", x.envelope(0, 5), 0);
-        Checks.load(x, "people 3");
+        String text = "account 8;income 0 1 1 1;fund 5 1 1 0;envelope 1 1 1;bill 0 0 1 1 0;people 3";
+        Checks.load(x, text);
+        checks.due("all is as in a new object", Picture.of(x), Picture.of(Checks.budget(text)));
         checks.due("no debts of old", x.net(1), 0);
         checks.due("the snapshot stays", x.restoreSnapshot(1), 0);
         checks.due("with its account", x.account(0), 100);

@@ -108,6 +108,11 @@ final class ForecastTest {
         checks.due("ended", x.fundLack(4), EnvelopeBudget.GONE);
         checks.dueThrows("fund 5", Checks.OUT, () -> x.fundLack(5));
         checks.dueThrows("fund -1", Checks.OUT, () -> x.fundLack(-1));
+        EnvelopeBudget both = Checks.budget("account 50;fund 50 10 0 0;fund 60 40 0 0;fund 40 40 0 0");
+        checks.due("another fund pays before", both.fundLack(1), 60);
+        both.deposit(0, 70);
+        checks.due("what is left is given by numbers", both.fundLack(1), 0);
+        checks.due("the next one gets the rest", both.fundLack(2), 30);
         EnvelopeBudget poor = Checks.budget("account 0;fund 60 20 25 0;income 0 50 44 0");
         poor.run(20);
         checks.due("a lack that remained is lacking, too", poor.fundLack(0), 120);

@@ -82,11 +82,12 @@ final class SharedTest {
         checks.due("its account", x.account(1), 130);
         checks.due("from the household", x.settle(0, 3, 0, 1000000), 999970);
         checks.due("account 0", x.account(0), -999500);
-        checks.due("between others", x.settle(1, 2, 77, 5), 5);
+        checks.due("between others", x.settle(1, 2, 77, 4), 4);
+        checks.due("the least", x.settle(1, 2, -77, 1), 5);
         nets(x, 999970, 5, 25, -1000000);
         checks.due("the pool stays", x.pool(), 600);
         checks.due("balanced", x.isBalanced(), true);
-        checks.due("actions", x.count(6), 3);
+        checks.due("actions", x.count(6), 4);
         checks.dueThrows("from 4", Checks.OUT, () -> x.settle(4, 4, 0, 0));
         checks.dueThrows("from -1", Checks.OUT, () -> x.settle(-1, 0, 0, 1));
         checks.dueThrows("to 4", Checks.OUT, () -> x.settle(1, 4, 0, 1));
@@ -138,6 +139,7 @@ final class SharedTest {
         x.settle(2, 4, 0, 25);
         x.settle(3, 0, 0, 15);
         nets(x, -15, 90, 25, 15, -45, -70);
+        checks.due("a part without asking for their number", x.transferPart(0, 2), 70);
         checks.due("transfers", x.transfers(), 4);
         part(x, 0, 5, 1, 70);
         part(x, 1, 4, 2, 25);
