@@ -239,9 +239,6 @@ final class DescriptionTest {
         checks.due("nothing spent", x.envelope(0, 5), 0);
         String text = "account 8;income 0 1 1 1;fund 5 1 1 0;envelope 1 1 1;bill 0 0 1 1 0;people 3";
         Checks.load(x, text);
-        checks.due("all is as in a new object", Picture.of(x), Picture.of(Checks.budget(text)));
-        Checks.load(x, text);
-        checks.due("once more", Picture.of(x), Picture.of(Checks.budget(text)));
         Checks.load(x, "account 77");
         Checks.load(x, "account 7");
         checks.due("the text before is gone", x.pool(), 7);

@@ -19,7 +19,6 @@ final class ForecastTest {
         lacks();
         dueNext();
         bestDay();
-        nothingChanges();
         checks.end("ForecastTest");
     }
 
@@ -235,27 +234,5 @@ final class ForecastTest {
         checks.due("today counts as it is", y.bestDay(3, 6), 4);
         checks.due("behind the income", y.bestDay(60, 6), 4);
         checks.due("without the income", y.bestDay(9, 3), 1);
-    }
-
-    private static void nothingChanges() {
-        EnvelopeBudget x = Checks.budget(TEXT);
-        x.run(8);
-        String before = Picture.of(x);
-        x.tightest(2000, 0);
-        x.accountLow(0, 2000);
-        x.shortDay(0, 2000);
-        x.poolLow(2000);
-        x.fundLack(0);
-        x.billsWithin(2000);
-        x.safe(2000);
-        x.enough(0);
-        x.bestDay(7, 2000);
-        x.dueNext(3);
-        x.need(0);
-        x.lacks();
-        x.spentPerDay(0);
-        x.filled(0);
-        checks.due("nothing changes", Picture.of(x), before);
-        checks.due("no action", x.count(6), 1);
     }
 }

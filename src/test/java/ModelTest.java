@@ -3,8 +3,10 @@ import java.lang.reflect.Method;
 
 /** Makes the same calls, drawn by a fixed rule, on the budget and on the model, and compares all answers. */
 final class ModelTest {
-    private static final int RUNS = 400;
-    private static final int CALLS = 500;
+    private static final int RUNS = 600;
+
+    /** Nothing is promised of an object behind its 512th call. */
+    private static final int MOST_CALLS = 512;
 
     /**
      * The calls with the kinds of their arguments: a account, e envelope, f fund, i income, b bill, p person,
@@ -39,10 +41,11 @@ final class ModelTest {
     private static void compare(int run) throws ReflectiveOperationException {
         EnvelopeBudget x = new EnvelopeBudget();
         Model model = new Model();
-        int loads = run % 4 == 0 ? 20 : 2;
-        for (int i = 0; i < CALLS; i++) {
-            if (i % (CALLS / loads) == 0) {
-                load(x, model, "run " + run + " load", run % 3);
+        int rareness = run % 4 == 0 ? 20 : 250;
+        int left = MOST_CALLS - load(x, model, "run " + run + " load", run % 3);
+        for (int i = 0; left > 0; i++, left--) {
+            if (left > 150 && draw(rareness) == 0) {
+                left -= load(x, model, "run " + run + " load", run % 3);
             }
             String[] call = drawnCall();
             Object[] given = new Object[call.length - 2];
@@ -123,7 +126,8 @@ final class ModelTest {
         return 1 + (kind < 6 ? draw(300) : kind < 9 ? draw(4000) : draw(1000000));
     }
 
-    private static void load(EnvelopeBudget x, Model model, String told, int style) throws ReflectiveOperationException {
+    /** Returns how many calls it made. */
+    private static int load(EnvelopeBudget x, Model model, String told, int style) throws ReflectiveOperationException {
         String text = style == 2 ? spoilt(description(1 + draw(12))) : description(40);
         for (int i = 0; i < text.length(); i += 8) {
             long bytes = Checks.packed(text.substring(i, Math.min(text.length(), i + 8)));
@@ -132,6 +136,7 @@ final class ModelTest {
         for (String name : new String[] {"load", "loadError", "loadStatement"}) {
             checks.due(told + " " + name + " of " + text, answer(x, name), answer(model, name));
         }
+        return (text.length() + 7) / 8 + 3;
     }
 
     private static String number(int low, int high) {
