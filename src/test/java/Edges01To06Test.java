@@ -115,6 +115,15 @@ final class Edges01To06Test {
         x.due("append 54", Run.FULL).due("load", 0).due("count 5", 5).due("append 0", 0);
     }
 
+    static void promise03_aWordAtTheLastByteOfAFullBuffer() {
+        error("people 1;" + " ".repeat(885) + "people", 1, 900, 1);
+        error("people 1;" + " ".repeat(885) + "peoplx", 1, 894, 1);
+        error("people 1;" + " ".repeat(885) + "peopl;", 1, 894, 1);
+        error("people 1;" + " ".repeat(883) + "people 7", 2, 899, 1);
+        error("people 1;" + " ".repeat(883) + "people x", 1, 899, 1);
+        fine("people 1;" + " ".repeat(883) + "people 6", 0);
+    }
+
     static void promise03_accountFrom0To1000000() {
         range("account ", "", 0, 1000000, 0);
         Run.of("account 1000000;account 0").due("account 0", 1000000).due("account 1", 0);

@@ -2,6 +2,11 @@
 final class Edges31To37Test {
     private static final String FOUR = "account 500;account 100;envelope 50 1 0;envelope 20 1 0 in 0;people 4";
 
+    /** As many of each kind as there may be. */
+    static final String GREATEST = "account 10;account 11;account 12;account 13;" + "envelope 2 0 1;".repeat(9)
+        + "envelope 3 2 1 in 8;" + "fund 6 3 4 0;".repeat(5) + "fund 6 3 4 3;" + "income 0 9 2 2;".repeat(3)
+        + "income 3 8 3 3;" + "bill 0 0 1 2 2;".repeat(11) + "bill 9 3 7 3 3;people 6";
+
     private static final long[] NO_AMOUNTS = {0, -1, 1000001, -1000000, Run.LEAST, Run.MOST};
 
     private static Run four() {
@@ -115,6 +120,17 @@ final class Edges31To37Test {
         Run.of(FOUR).make("allot").due("share 1 -1 1 141 3", 71).each("envelope # 0", 0, 0).due("pool", 529);
         Run.of(FOUR).make("allot").due("share 1 -1 1 600 1", 600).each("envelope # 0", 0, 0).due("pool", 0);
         Run.of(FOUR).make("allot").due("share 1 -1 1 601 1", 601).each("envelope # 0", 0, -1).due("pool", 0);
+    }
+
+    static void promise31_aPartOf1IsSpentAndAPartOf0IsNot() {
+        Run.of(FOUR).make("allot").due("share 1 -1 0 1 15", 1).due("envelope 0 0", 49).due("envelope 0 5", 1);
+        Run.of(FOUR).make("allot").due("share 1 -1 0 1 14", 0).due("envelope 0 0", 50).due("envelope 0 5", 0);
+    }
+
+    static void promise31_nothingIsCoveredIfPerson0HasNoPart() {
+        Run x = Run.of("account 0;envelope 0 1 0;people 3").make("spend 0 0 5", "deposit 0 9");
+        x.due("share 1 -1 0 9 6", 0).due("envelope 0 0", -5).due("share 0 0 0 9 2", 0).due("envelope 0 0", -5)
+            .due("share 1 -1 0 9 1", 9).due("envelope 0 0", -5).due("pool", 0);
     }
 
     static void promise31_theAccountBecomesLessByTheWholeAmount() {
@@ -277,6 +293,13 @@ final class Edges31To37Test {
             x.make("run 7", "spend 1 1 1200", "deposit 0 11").undone(action);
             x.differs(x.twin().make(action), Later.Part.STATE);
         }
+    }
+
+    static void promise36_alsoOfTheLastOfEachKind() {
+        Run x = Run.of(GREATEST).make("settle 4 5 0 2", "run 2");
+        x.undone("settle 5 4 0 9").undone("give 5 1").undone("spend 9 3 1").undone("run 3").undone("dropBill 11")
+            .undone("pay 11").undone("postpone 11 1").undone("setTarget 5 1").undone("setMonthly 9 1")
+            .undone("transfer 3 2 1").undone("share 5 -1 9 7 63");
     }
 
     static void promise36_aRefusedCallIsNoAction() {

@@ -1,3 +1,5 @@
+import java.util.Arrays;
+
 /** Promises 38 to 47 at their edges: forecasts, and what is reckoned from a budget. */
 final class Edges38To47Test {
     /** Sums of the accounts: 130; day 5: 90; 10: 180; 12: 140; 19: 100; 20: 25; 26: -15; 33: -55; 40: -5. */
@@ -12,6 +14,61 @@ final class Edges38To47Test {
 
     private static Run onDay20000(String text) {
         return Run.of(text).repeat(50, "run 400").due("day", 20000);
+    }
+
+    /** What a call answers today and behind each of the next days. */
+    private static long[] behindTheDays(Run x, int days, String... calls) {
+        Run passing = x.twin();
+        long[] all = new long[days + 1];
+        for (int i = 0; i <= days; i++) {
+            for (String call : calls) {
+                all[i] += (Long) passing.answer(call);
+            }
+            passing.make("run 1");
+        }
+        return all;
+    }
+
+    private static long least(long[] all) {
+        return Arrays.stream(all).min().getAsLong();
+    }
+
+    static void promise38_theDaysPassAsRunLetsThem() {
+        long[] sums = behindTheDays(used(), 70, "account 0", "account 1");
+        int first = 0;
+        while (sums[first] > least(sums)) {
+            first++;
+        }
+        used().due("tightest 70 1", least(sums)).due("tightest 70 0", 3 + first);
+    }
+
+    static void promise39_theDaysPassAsRunLetsThem() {
+        used().due("accountLow 0 70", least(behindTheDays(used(), 70, "account 0")))
+            .due("accountLow 1 70", least(behindTheDays(used(), 70, "account 1")));
+    }
+
+    static void promise40_theDaysPassAsRunLetsThem() {
+        long[] balances = behindTheDays(used(), 70, "envelope 0 0");
+        int first = 0;
+        while (balances[first] >= 0) {
+            first++;
+        }
+        used().due("shortDay 0 70", 3 + first).due("shortDay 0 " + first, 3 + first)
+            .due("shortDay 0 " + (first - 1), Run.NONE);
+    }
+
+    static void promise41_theDaysPassAsRunLetsThem() {
+        for (int days : new int[] {0, 1, 20, 30, 70}) {
+            used().due("poolLow " + days, least(behindTheDays(used(), days, "pool")));
+        }
+    }
+
+    static void promise42_theDaysPassAsRunLetsThem() {
+        String text = "account 50;envelope 9 0 0;fund 30 64 0 0;fund 20 12 13 0;income 0 40 8 9;bill 0 0 33 7 8";
+        Run paid = Run.of(text).make("run 63");
+        long balance = (Long) paid.answer("fund 0 0");
+        Run.of(text).due("fundLack 0", 30 - balance);
+        Cases.right(balance > 0 && balance < 30, "the fund has a part of its target, but has " + balance);
     }
 
     static void promise38_daysFrom0To2000() {
@@ -29,6 +86,11 @@ final class Edges38To47Test {
     static void promise38_todayCounts() {
         Run.of(TEXT).due("tightest 0 0", 0).due("tightest 0 1", 130).due("tightest 4 0", 0).make("run 20")
             .due("tightest 0 0", 20).due("tightest 0 1", 25).due("tightest 5 0", 20).due("tightest 6 0", 26);
+    }
+
+    static void promise38_tomorrowIsTheFirstOfTheNextDays() {
+        Run.of("account 9;envelope 0 1 0;income 0 5 2 0;bill 0 0 5 1 0").due("tightest 1 0", 1).due("tightest 1 1", 4)
+            .due("tightest 9 0", 1).due("tightest 9 1", 4);
     }
 
     static void promise38_theLastOfTheDaysCounts() {
@@ -102,6 +164,14 @@ final class Edges38To47Test {
     static void promise40_negativeAndNot0() {
         Run.of("account 5;envelope 0 1 0;bill 0 0 5 3 0;bill 0 0 1 7 0").due("shortDay 0 6", Run.NONE)
             .due("shortDay 0 7", 7);
+    }
+
+    static void promise40_itsOwnBalanceWhateverTheAccountsHold() {
+        Run.of("account 9;envelope 0 1 0;envelope 0 1 0;bill 0 0 4 3 0;bill 0 0 4 6 0").make("shift -1 1 9")
+            .due("shortDay 0 2000", 3).due("shortDay 1 2000", Run.NONE);
+        Run.of("account 9;envelope 0 1 0;envelope 0 1 0;bill 1 0 4 3 0").make("shift -1 0 9")
+            .due("shortDay 1 2000", 3).due("shortDay 0 2000", Run.NONE);
+        Run.of("account 0;envelope 0 1 0;fund 5 3 9 0").due("shortDay 0 2000", Run.NONE);
     }
 
     static void promise40_todayCounts() {
@@ -202,6 +272,7 @@ final class Edges38To47Test {
         Run.of("account 60;envelope 0 1 0;fund 60 40 0 0;bill 0 0 9 29 0").due("fundLack 0", 9);
         Run.of("account 60;envelope 0 1 0;fund 60 40 0 0;bill 0 0 9 30 0").due("fundLack 0", 0);
         Run.of("account 60;fund 10 29 0 0;fund 60 40 0 0").due("fundLack 1", 10);
+        Run.of("account 60;fund 10 9 10 0;fund 60 40 0 0").due("fundLack 1", 40);
         Run.of("account 60;fund 60 40 0 0;fund 10 40 0 0").each("fundLack #", 0, 10);
     }
 

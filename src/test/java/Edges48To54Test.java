@@ -66,6 +66,18 @@ final class Edges48To54Test {
             .due("lacks", 1).make("spend 1 0 3").due("lacks", 4).make("run 2").due("lacks", 15);
     }
 
+    static void promise49_ofTenEnvelopesAndSixFunds() {
+        Run x = Run.of("account 0;" + "envelope 0 1 0;".repeat(10) + "fund 5 1 9 0;".repeat(5) + "fund 5 1 9 0");
+        x.due("lacks", 0).make("spend 0 0 1", "spend 9 0 100", "run 1").due("lacks", 131);
+    }
+
+    static void promise49_whatWasLoadedBeforeDoesNotCount() {
+        Run x = Run.of("account 0;envelope 0 1 0;envelope 0 1 0;fund 5 1 9 0;fund 5 1 9 0");
+        x.make("spend 0 0 1", "spend 1 0 2", "run 1").due("lacks", 13);
+        x.type("account 0;envelope 0 1 0;fund 5 1 9 0").make("load").due("lacks", 0).due("isBalanced", true);
+        x.type("people 1").make("load").due("lacks", 0);
+    }
+
     static void promise49_whatOthersHaveDoesNotCount() {
         Run.of("account 0;envelope 0 1 0;envelope 0 1 0;fund 5 2 9 0;fund 6 9 9 0").make("spend 0 0 1", "run 2",
             "deposit 0 99", "shift -1 1 20", "give 1 30").due("pool", 49).due("lacks", 6);
@@ -237,6 +249,14 @@ final class Edges48To54Test {
             .equals(saved), "the snapshot is not all of it");
         x.type("account 1;account 2;account 3;envelope 9 0 9;people 6").make("load", "run 30", "restoreSnapshot 1");
         x.due("count 6", 0).alike(then);
+    }
+
+    static void promise53_alsoTheLastOfEachKind() {
+        Run x = Run.of(Edges31To37Test.GREATEST).make("settle 5 4 0 9", "give 5 1", "spend 9 3 1", "saveSnapshot 0");
+        Run then = x.twin().make("restoreSnapshot 0");
+        x.make("settle 5 4 0 9", "give 5 1", "spend 9 3 1", "run 3", "dropBill 11", "restoreSnapshot 0").alike(then);
+        then.due("net 5", 9).due("fund 5 0", 1).due("envelope 9 5", 1).due("account 3", 12).due("bill 11 2", 7)
+            .due("income 3 2", 3);
     }
 
     static void promise53_withoutTheBufferAndTheResultsOfTheLatestLoad() {
