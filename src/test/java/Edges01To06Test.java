@@ -287,6 +287,21 @@ final class Edges01To06Test {
             .each("fund # 1", 21, 22).each("income # 1", 31, 32).each("bill # 2", 41, 42);
     }
 
+    static void promise03_eachKindMayComeBehindAllOfTheOthers() {
+        String[] kinds = {"account 5;".repeat(3) + "account 7", "envelope 1 0 0;".repeat(9) + "envelope 2 0 0",
+            "fund 1 1 0 0;".repeat(5) + "fund 2 1 0 0", "income 0 1 1 0;".repeat(3) + "income 0 2 1 0",
+            "bill 0 0 1 1 0;".repeat(11) + "bill 0 0 2 1 0", "people 6"};
+        int[][] orders = {{1, 0, 4, 3, 2, 5}, {0, 2, 3, 1, 4, 5}, {5, 1, 0, 2, 4, 3}, {0, 3, 1, 4, 2, 5}};
+        for (int[] order : orders) {
+            StringBuilder text = new StringBuilder(kinds[order[0]]);
+            for (int i = 1; i < order.length; i++) {
+                text.append(';').append(kinds[order[i]]);
+            }
+            Run.of(text.toString()).each("count #", 4, 10, 6, 4, 12, 6).due("account 3", 7).due("envelope 9 1", 2)
+                .due("fund 5 1", 2).due("income 3 1", 2).due("bill 11 2", 2).due("pool", 22);
+        }
+    }
+
     static void promise03_oneStatementButNotNone() {
         fine("people 1", 0);
         error("", 1, 0, 0);
@@ -473,6 +488,15 @@ final class Edges01To06Test {
         x.type("people 1").make("load").due("restoreSnapshot 0", Run.NONE).due("restoreSnapshot 1", 5);
         Cases.right(Later.told(x.twin(), Later.Part.STATE).equals(saved), "the snapshot is another one");
         used().type("people 9").make("load").due("restoreSnapshot 1", 5);
+    }
+
+    static void promise03_nothingOfALongerTextBeforeIsReadAgain() {
+        new Run().type("peoplepeople 6").due("load", -100).type("people").due("load", -106).type("peopl")
+            .due("load", -100).due("loadError", 1);
+        new Run().type("people 6666").due("load", -107).type("people 6").due("load", 0).due("count 5", 6);
+        new Run().type("people 6  ;people 9").due("load", -118).type("people 5").due("load", 0).due("count 5", 5);
+        new Run().type("account 5;account 6;account 7").due("load", 0).type("account 8").due("load", 0)
+            .due("count 0", 1).due("pool", 8);
     }
 
     static void promise03_theBufferIsEmptiedAlsoOnAnError() {

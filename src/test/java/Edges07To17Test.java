@@ -255,6 +255,15 @@ final class Edges07To17Test {
         }
     }
 
+    static void promise17_allOfEachKindCount() {
+        Run.of(Edges31To37Test.GREATEST).make("run 1", "shift -1 9 2", "shift -1 3 2", "give 5 3", "settle 5 0 3 8",
+            "settle 0 4 2 5").due("isBalanced", true).make("run 50").due("isBalanced", true);
+        Run.of("account 9;envelope 1 1 0;envelope 2 1 0;fund 9 40 0 0;fund 9 50 9 0;fund 9 60 9 0").make("allot")
+            .due("isBalanced", true);
+        Run.of("account 9;account 8;account 7;envelope 1 1 0;fund 9 20 0 0").make("allot", "spend 0 2 5")
+            .due("isBalanced", true);
+    }
+
     public static void main(String[] args) {
         Cases.runAll(Edges07To17Test.class);
     }

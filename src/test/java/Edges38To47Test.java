@@ -138,6 +138,11 @@ final class Edges38To47Test {
             .make("run 5").due("accountLow 0 0", 60).due("accountLow 0 6", 60);
     }
 
+    static void promise39_itsOwnBalanceWhateverTheOthersHold() {
+        Run.of("account 9;account 8;account 7;account 6;income 0 5 1 0;fund 4 2 0 3").due("accountLow 0 9", 9)
+            .due("accountLow 1 9", 8).due("accountLow 2 9", 7).due("accountLow 3 9", 2).due("accountLow 3 1", 6);
+    }
+
     static void promise39_theDay20000DoesNotMatter() {
         onDay20000("account 0;account 0;envelope 0 1 0;bill 0 1 1 400 400").due("accountLow 1 399", -50)
             .due("accountLow 1 400", -51).due("accountLow 0 400", 0).unchanged("accountLow 1 2000", -55);
