@@ -493,6 +493,7 @@ final class Edges01To06Test {
     static void promise03_nothingOfALongerTextBeforeIsReadAgain() {
         new Run().type("peoplepeople 6").due("load", -100).type("people").due("load", -106).type("peopl")
             .due("load", -100).due("loadError", 1);
+        new Run().type("people  ;").due("load", -108).type("people").due("load", -106).due("loadError", 1);
         new Run().type("people 6666").due("load", -107).type("people 6").due("load", 0).due("count 5", 6);
         new Run().type("people 6  ;people 9").due("load", -118).type("people 5").due("load", 0).due("count 5", 5);
         new Run().type("account 5;account 6;account 7").due("load", 0).type("account 8").due("load", 0)
