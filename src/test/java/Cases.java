@@ -4,7 +4,10 @@ import java.lang.reflect.Modifier;
 import java.util.Map;
 import java.util.TreeMap;
 
-/** Runs the tests of a class: its static methods whose names begin with "promise", by their names. */
+/**
+ * Runs the tests of a class: its static methods whose names begin with "promise", by their names; with
+ * -Dcase=promise18_noMonth those alone whose names begin so.
+ */
 final class Cases {
     private static String test = "";
     private static int right;
@@ -27,6 +30,8 @@ final class Cases {
     /** Ends the test's machine with exit code 1 if a test fails. */
     static void runAll(Class<?> tests) {
         Map<String, Method> all = of(tests);
+        String asked = System.getProperty("case", "");
+        all.keySet().removeIf(name -> !name.startsWith(asked));
         for (Method method : all.values()) {
             runOne(method);
         }
